@@ -243,6 +243,13 @@ public final class PromisesTest {
     due(2, () -> y.single(0, 5, 10, 13, 2, 3));
     due(0, () -> y.single(1, 5, 8, 10, 9, 4));
     due(4, () -> y.singleOf(2, 5));
+    // Hall 1 is clean at 7, as the cleaner does hall 0 first.
+    HallDiary z = new HallDiary();
+    z.single(0, 6, 1, 5, 9, 1);
+    z.single(1, 6, 1, 5, 9, 1);
+    z.single(2, 6, 9, 12, 9, 1);
+    refused(z, WRONG_STATE, () -> z.single(1, 6, 6, 7, 9, 2));
+    due(0, () -> z.single(1, 6, 7, 8, 9, 2));
   }
 
   static void cancel() {
@@ -355,6 +362,10 @@ public final class PromisesTest {
     refused(y, WRONG_STATE, () -> y.set(0, 3));
     due(1, () -> y.set(0, 2));
     due(2, () -> y.set(0, 2));
+    HallDiary v = new HallDiary();
+    v.single(0, 0, 8, 10, 1, 1);
+    v.single(0, 0, 12, 13, 1, 1);
+    refused(v, WRONG_STATE, () -> v.set(0, 3));
     // The lets clash with no hour, but two halls wait for one cleaner.
     HallDiary z = new HallDiary();
     z.regular(0, 1, 8, 10, 1, 1);
@@ -560,6 +571,9 @@ public final class PromisesTest {
     x.regular(2, 5, 1, 2, 1, 0);
     // 333 * 93 / 100 is 309, times 150 / 100 is 463.
     due(463, () -> x.regularOf(1, 6));
+    x.set(3, 0);
+    x.regular(0, 0, 0, 1, 1, 0);
+    due(0, () -> x.regularOf(2, 10));
     due(12, () -> x.regularOf(1, 10));
   }
 
@@ -583,6 +597,10 @@ public final class PromisesTest {
     x.regular(1, 3, 10, 12, 5, 7);
     x.single(1, 10, 13, 14, 5, 0);
     x.off(0, 17);
+    x.single(2, 0, 0, 1, 5, 13);
+    x.single(2, 0, 23, 24, 5, 14);
+    due(13, () -> x.who(2, 0, 0));
+    due(14, () -> x.who(2, 0, 23));
     int[] want = {-1, 7, 7, -1, 0, -1};
     for (int i = 0; i < want.length; i++) {
       int hour = 9 + i;
@@ -773,6 +791,8 @@ public final class PromisesTest {
     x.single(0, 3, 1, 2, 1, 8);
     x.single(0, 4, 1, 2, 1, 8);
     due(8, () -> x.best());
+    x.single(0, 5, 1, 24, 1, 0);
+    due(0, () -> x.best());
   }
 
   static void fullnessAndMeanRent() {
@@ -840,5 +860,21 @@ public final class PromisesTest {
       due(listed(y, new int[] {100 + 201 * hours, 1500, 2500}, ""), () -> y.digest());
     }
     due(x.digest(), () -> x.digest());
+    // A day 0 with three free hours but not four, and a day 5 on which the hours and the rank matter.
+    HallDiary z = new HallDiary();
+    z.single(0, 0, 4, 24, 1, 1);
+    z.single(0, 5, 15, 17, 5, 1);
+    z.single(0, 5, 21, 22, 4, 1);
+    z.single(1, 5, 15, 17, 4, 1);
+    z.single(1, 5, 20, 22, 4, 1);
+    z.single(2, 5, 15, 18, 5, 1);
+    String full = "0:5,9-12*1@2;0:5,9-12*1@2;0:5,9-12*1@2;0:5,9-12*1@2;0:5,9-12";
+    type(z, full.substring(0, 60));
+    due(0, () -> z.nextFree(0, 0, 3));
+    due(24, () -> z.nextFree(0, 0, 4));
+    due(0, () -> z.refusal(0, 5, 18, 20, 5));
+    due(3, () -> z.refusal(1, 5, 18, 20, 5));
+    due(2, () -> z.refusal(2, 5, 18, 20, 5));
+    due(listed(z, new int[] {1000, 1500, 2500}, full.substring(0, 60)), () -> z.digest());
   }
 }
