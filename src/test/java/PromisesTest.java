@@ -464,6 +464,10 @@ public final class PromisesTest {
     due(0, () -> letsOf(y, "2:80,1-2*9@0"));
     y.cancel(false, 11);
     due(1, () -> letsOf(y, "2:80,1-2*9@0;2:81,1-2*9@0"));
+    // A text that fills the buffer.
+    HallDiary w = new HallDiary();
+    due(4, () -> letsOf(w, "0:10,10-12*1@10;0:11,9-12*1@10;0:12,9-12*1@10;0:13,9-12*1@19"));
+    due(19, () -> w.singleOf(3, 5));
     // Days could not be cleaned.
     HallDiary z = new HallDiary();
     due(2, () -> letsOf(z, "0:5,8-10*9@0;1:5,11-14*9@1;1:5,8-10*9@2"));
