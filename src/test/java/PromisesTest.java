@@ -1,58 +1,5 @@
 /** Every promise by hand: ordinary calls, the edges that the document names, and wrong arguments. */
-public final class PromisesTest {
-  interface Call { long answer(); }
-
-  static final long OUT_OF_BOUNDS = -1001;
-  static final long WRONG_ARGUMENT = -1002;
-  static final long WRONG_STATE = -1003;
-  static int wrong = 0;
-  static int asked = 0;
-  static String promise = "";
-
-  static void due(long want, Call call) {
-    asked++;
-    long got;
-    try {
-      got = call.answer();
-    } catch (IndexOutOfBoundsException e) {
-      got = e.getClass() == IndexOutOfBoundsException.class ? OUT_OF_BOUNDS : -1004;
-    } catch (IllegalArgumentException e) {
-      got = WRONG_ARGUMENT;
-    } catch (IllegalStateException e) {
-      got = WRONG_STATE;
-    } catch (RuntimeException e) {
-      got = -1005;
-    }
-    if (got != want) {
-      wrong++;
-      int line = new Throwable().getStackTrace()[1].getLineNumber();
-      System.out.println("promise " + promise + ", line " + line + ": answered " + got + ", due is " + want);
-    }
-  }
-
-  /** A call that must throw, and must leave everything as it was. */
-  static void refused(HallDiary x, long want, Call call) {
-    long before = x.digest();
-    due(want, call);
-    due(before, () -> x.digest());
-  }
-
-  static void type(HallDiary x, String text) {
-    x.clearBuffer();
-    for (int i = 0; i < text.length(); i++) x.append(text.charAt(i));
-  }
-
-  static int letsOf(HallDiary x, String text) {
-    type(x, text);
-    return x.lets();
-  }
-
-  static HallDiary fullOfSingles() {
-    HallDiary x = new HallDiary();
-    for (int i = 0; i < 12; i++) x.single(0, 2 * i, 10, 12, 1, i);
-    return x;
-  }
-
+public final class PromisesTest extends Answers {
   public static void main(String[] args) {
     aNewObject();
     regular();
@@ -81,12 +28,11 @@ public final class PromisesTest {
     best();
     fullnessAndMeanRent();
     digest();
-    System.out.println(wrong == 0 ? asked + " answers are as due" : wrong + " answers are not as due");
-    if (wrong != 0) System.exit(1);
+    tellAndEnd();
   }
 
   static void aNewObject() {
-    promise = "1";
+    about = "promise 1";
     HallDiary x = new HallDiary();
     due(-1, () -> HallDiary.NONE);
     int[] counts = {0, 0, 0, 0, 0, 0, 0, 1, 20, 50, 0, 11, 0};
@@ -105,7 +51,7 @@ public final class PromisesTest {
   }
 
   static void regular() {
-    promise = "2";
+    about = "promise 2";
     HallDiary x = new HallDiary();
     int min = Integer.MIN_VALUE;
     int max = Integer.MAX_VALUE;
@@ -137,7 +83,7 @@ public final class PromisesTest {
   }
 
   static void regularOnItsDays() {
-    promise = "2";
+    about = "promise 2";
     HallDiary x = new HallDiary();
     x.single(0, 0, 10, 12, 5, 1);
     x.single(0, 7, 10, 12, 4, 2);
@@ -190,7 +136,7 @@ public final class PromisesTest {
   }
 
   static void single() {
-    promise = "3";
+    about = "promise 3";
     HallDiary x = new HallDiary();
     int min = Integer.MIN_VALUE;
     int max = Integer.MAX_VALUE;
@@ -227,7 +173,7 @@ public final class PromisesTest {
   }
 
   static void singleCleaned() {
-    promise = "3";
+    about = "promise 3";
     HallDiary x = new HallDiary();
     x.single(0, 5, 8, 10, 9, 0);
     x.single(1, 5, 11, 14, 9, 1);
@@ -253,7 +199,7 @@ public final class PromisesTest {
   }
 
   static void cancel() {
-    promise = "4";
+    about = "promise 4";
     HallDiary x = new HallDiary();
     refused(x, OUT_OF_BOUNDS, () -> x.cancel(true, 0));
     refused(x, OUT_OF_BOUNDS, () -> x.cancel(false, 0));
@@ -287,7 +233,7 @@ public final class PromisesTest {
   }
 
   static void off() {
-    promise = "5";
+    about = "promise 5";
     HallDiary x = new HallDiary();
     refused(x, OUT_OF_BOUNDS, () -> x.off(0, 99));
     x.regular(0, 5, 10, 12, 5, 3);
@@ -315,7 +261,7 @@ public final class PromisesTest {
   }
 
   static void rate() {
-    promise = "6";
+    about = "promise 6";
     HallDiary x = new HallDiary();
     x.single(0, 0, 1, 3, 1, 1);
     for (int bad : new int[] {-1, 3, Integer.MIN_VALUE, Integer.MAX_VALUE}) refused(x, OUT_OF_BOUNDS, () -> x.rate(bad, 0));
@@ -333,7 +279,7 @@ public final class PromisesTest {
   }
 
   static void set() {
-    promise = "7";
+    about = "promise 7";
     HallDiary x = new HallDiary();
     for (int bad : new int[] {-1, 5, Integer.MIN_VALUE, Integer.MAX_VALUE}) refused(x, OUT_OF_BOUNDS, () -> x.set(bad, 0));
     int[] most = {4, 50, 100, 11, 11};
@@ -388,7 +334,7 @@ public final class PromisesTest {
   }
 
   static void append() {
-    promise = "8";
+    about = "promise 8";
     HallDiary x = new HallDiary();
     for (int bad : new int[] {32, 127, 0, -1, Integer.MIN_VALUE, Integer.MAX_VALUE}) refused(x, WRONG_ARGUMENT, () -> x.append(bad));
     due(1, () -> x.append(33));
@@ -403,17 +349,20 @@ public final class PromisesTest {
   }
 
   static void clearBuffer() {
-    promise = "9";
+    about = "promise 9";
     HallDiary x = new HallDiary();
     type(x, "0:1");
     due(3, () -> x.clearBuffer());
     due(0, () -> x.clearBuffer());
     due(1, () -> x.append(48));
+    for (int i = 1; i < 60; i++) x.append(126);
+    due(60, () -> x.clearBuffer());
+    due(0, () -> x.firstError());
     due(0, () -> x.count(12));
   }
 
   static void firstError() {
-    promise = "10";
+    about = "promise 10";
     HallDiary x = new HallDiary();
     String good = "2:83,23-24*9@19;0:0,0-1*1@0;1:79,19-20*5@10";
     for (int i = 0; i <= good.length(); i++) {
@@ -433,7 +382,7 @@ public final class PromisesTest {
   }
 
   static void lets() {
-    promise = "11";
+    about = "promise 11";
     HallDiary x = new HallDiary();
     String whole = "0:5,9-12*1@2";
     refused(x, WRONG_ARGUMENT, () -> x.lets());
@@ -474,7 +423,7 @@ public final class PromisesTest {
   }
 
   static void undo() {
-    promise = "12";
+    about = "promise 12";
     HallDiary x = new HallDiary();
     due(WRONG_STATE, () -> x.undo());
     long start = x.digest();
@@ -516,7 +465,7 @@ public final class PromisesTest {
   }
 
   static void keepAndRestore() {
-    promise = "13";
+    about = "promise 13";
     HallDiary x = new HallDiary();
     refused(x, WRONG_STATE, () -> x.restore());
     due(0, () -> x.keep());
@@ -530,7 +479,7 @@ public final class PromisesTest {
     x.cancel(true, 0);
     x.rate(2, 200);
     x.set(2, 8);
-    promise = "14";
+    about = "promise 14";
     x.append(50);
     due(2, () -> x.restore());
     due(6, () -> x.count(12));
@@ -545,7 +494,16 @@ public final class PromisesTest {
     x.off(0, 0);
     due(2, () -> x.restore());
     due(12, () -> x.regularOf(0, 9));
-    promise = "13";
+    // In place of the one before.
+    x.cancel(true, 0);
+    due(1, () -> x.keep());
+    x.cancel(false, 0);
+    due(1, () -> x.restore());
+    due(0, () -> x.count(0));
+    x.undo();
+    due(0, () -> x.keep());
+    due(0, () -> x.restore());
+    about = "promise 13";
     HallDiary y = new HallDiary();
     y.keep();
     y.single(0, 0, 1, 2, 1, 1);
@@ -556,7 +514,7 @@ public final class PromisesTest {
   }
 
   static void regularOf() {
-    promise = "15";
+    about = "promise 15";
     HallDiary x = new HallDiary();
     refused(x, OUT_OF_BOUNDS, () -> x.regularOf(0, 99));
     x.set(3, 1);
@@ -582,7 +540,7 @@ public final class PromisesTest {
   }
 
   static void singleOf() {
-    promise = "16";
+    about = "promise 16";
     HallDiary x = new HallDiary();
     refused(x, OUT_OF_BOUNDS, () -> x.singleOf(0, 99));
     x.single(1, 83, 21, 24, 6, 18);
@@ -596,7 +554,7 @@ public final class PromisesTest {
   }
 
   static void who() {
-    promise = "17";
+    about = "promise 17";
     HallDiary x = new HallDiary();
     x.regular(1, 3, 10, 12, 5, 7);
     x.single(1, 10, 13, 14, 5, 0);
@@ -619,7 +577,7 @@ public final class PromisesTest {
   }
 
   static void hallOf() {
-    promise = "18";
+    about = "promise 18";
     HallDiary x = new HallDiary();
     x.regular(1, 5, 10, 12, 5, 7);
     x.single(1, 12, 13, 24, 5, 0);
@@ -638,10 +596,20 @@ public final class PromisesTest {
     due(13, () -> x.hallOf(1, 12, 1));
     due(13, () -> x.hallOf(1, 12, 2));
     due(24750, () -> x.hallOf(1, 12, 3));
+    // A full day, and an empty one: the next.
+    HallDiary y = new HallDiary();
+    y.single(2, 82, 0, 24, 1, 0);
+    int[] full = {1, 0, 0, 90000};
+    int[] empty = {0, 24, 24, 0};
+    for (int what : from(0, 3)) {
+      due(full[what], () -> y.hallOf(2, 82, what));
+      due(empty[what], () -> y.hallOf(2, 83, what));
+      due(empty[what], () -> y.hallOf(1, 82, what));
+    }
   }
 
   static void tenant() {
-    promise = "19";
+    about = "promise 19";
     HallDiary x = new HallDiary();
     x.regular(0, 0, 10, 12, 5, 19);
     x.regular(1, 0, 10, 12, 5, 18);
@@ -663,7 +631,7 @@ public final class PromisesTest {
   }
 
   static void count() {
-    promise = "20";
+    about = "promise 20";
     HallDiary x = new HallDiary();
     x.set(0, 2);
     x.set(1, 10);
@@ -687,7 +655,7 @@ public final class PromisesTest {
   }
 
   static void refusal() {
-    promise = "21";
+    about = "promise 21";
     HallDiary x = new HallDiary();
     x.single(0, 5, 8, 10, 4, 0);
     x.single(1, 5, 11, 14, 6, 1);
@@ -726,7 +694,7 @@ public final class PromisesTest {
   }
 
   static void price() {
-    promise = "22";
+    about = "promise 22";
     HallDiary x = fullOfSingles();
     due(2000, () -> x.price(0, 0, 10, 12));
     due(2000, () -> x.price(0, 4, 10, 12));
@@ -747,7 +715,7 @@ public final class PromisesTest {
   }
 
   static void nextFree() {
-    promise = "23";
+    about = "promise 23";
     HallDiary x = new HallDiary();
     due(0, () -> x.nextFree(0, 0, 1));
     due(83 * 24, () -> x.nextFree(2, 83, 24));
@@ -779,7 +747,7 @@ public final class PromisesTest {
   }
 
   static void best() {
-    promise = "24";
+    about = "promise 24";
     HallDiary x = new HallDiary();
     x.set(4, 0);
     x.regular(0, 0, 1, 2, 1, 5);
@@ -797,10 +765,32 @@ public final class PromisesTest {
     due(8, () -> x.best());
     x.single(0, 5, 1, 24, 1, 0);
     due(0, () -> x.best());
+    // By rents: neither by hours, nor by days, nor by lets, nor by what is paid.
+    HallDiary y = new HallDiary();
+    y.single(0, 0, 0, 12, 1, 3);
+    y.single(2, 0, 7, 12, 1, 4);
+    due(4, () -> y.best());
+    y.single(0, 1, 10, 11, 1, 3);
+    due(3, () -> y.best());
+    y.cancel(false, 2);
+    due(4, () -> y.best());
+    y.rate(0, 100);
+    y.regular(0, 1, 1, 2, 1, 2);
+    due(4, () -> y.best());
+    for (int i = 0; i < 2; i++) y.cancel(false, 0);
+    due(2, () -> y.best());
+    y.cancel(true, 0);
+    due(-1, () -> y.best());
+    // The least that a let can cost is 50.
+    y.set(1, 50);
+    y.set(4, 0);
+    y.regular(0, 0, 1, 2, 1, 19);
+    due(50, () -> y.count(3));
+    due(19, () -> y.best());
   }
 
   static void fullnessAndMeanRent() {
-    promise = "25";
+    about = "promise 25";
     HallDiary x = new HallDiary();
     for (int bad : new int[] {-1, 3, Integer.MIN_VALUE, Integer.MAX_VALUE}) due(OUT_OF_BOUNDS, () -> (long) x.fullness(bad));
     x.regular(0, 0, 1, 4, 1, 5);
@@ -810,18 +800,18 @@ public final class PromisesTest {
     due(Double.doubleToRawLongBits(57.0 / 2016.0), () -> Double.doubleToRawLongBits(x.fullness(0)));
     due(Double.doubleToRawLongBits(1.0 / 2016.0), () -> Double.doubleToRawLongBits(x.fullness(1)));
     due(0, () -> Double.doubleToRawLongBits(x.fullness(2)));
-    promise = "26";
+    about = "promise 26";
     float mean = (float) (11 * 2400 + 24000 + 1500) / 84;
     due(Float.floatToRawIntBits(mean), () -> Float.floatToRawIntBits(x.meanRent()));
     due(0, () -> Float.floatToRawIntBits(new HallDiary().meanRent()));
-    promise = "25";
+    about = "promise 25";
     HallDiary y = new HallDiary();
     y.set(1, 0);
     y.set(2, 100);
     y.rate(2, 4999);
     for (int d = 0; d < 7; d++) y.regular(2, d, 0, 24, 1, 5);
     due(1, () -> (long) y.fullness(2));
-    promise = "26";
+    about = "promise 26";
     due(Float.floatToRawIntBits((float) y.count(3) / 84), () -> Float.floatToRawIntBits(y.meanRent()));
   }
 
@@ -848,7 +838,7 @@ public final class PromisesTest {
   }
 
   static void digest() {
-    promise = "27";
+    about = "promise 27";
     HallDiary x = new HallDiary();
     due(listed(x, new int[] {1000, 1500, 2500}, ""), () -> x.digest());
     x.regular(0, 5, 18, 20, 5, 3);
@@ -868,7 +858,7 @@ public final class PromisesTest {
     HallDiary z = new HallDiary();
     z.single(0, 0, 4, 24, 1, 1);
     z.single(0, 5, 15, 17, 5, 1);
-    z.single(0, 5, 21, 22, 4, 1);
+    z.single(0, 5, 21, 22, 9, 1);
     z.single(1, 5, 15, 17, 4, 1);
     z.single(1, 5, 20, 22, 4, 1);
     z.single(2, 5, 15, 18, 5, 1);
@@ -880,5 +870,20 @@ public final class PromisesTest {
     due(3, () -> z.refusal(1, 5, 18, 20, 5));
     due(2, () -> z.refusal(2, 5, 18, 20, 5));
     due(listed(z, new int[] {1000, 1500, 2500}, full.substring(0, 60)), () -> z.digest());
+    HallDiary w = new HallDiary();
+    w.single(0, 5, 20, 21, 5, 1);
+    w.single(1, 5, 16, 18, 5, 1);
+    w.single(2, 5, 18, 20, 4, 1);
+    int[] reasons = {2, 2, 0};
+    for (int hall : from(0, 2)) due(reasons[hall], () -> w.refusal(hall, 5, 18, 20, 5));
+    due(listed(w, new int[] {1000, 1500, 2500}, ""), () -> w.digest());
+    // Of nothing but zeros, NONE and what is at first.
+    HallDiary v = new HallDiary();
+    v.set(0, 0);
+    v.keep();
+    for (int i = 0; i < 12; i++) v.single(2, 0, i, i + 1, 9, 19);
+    due(listed(v, new int[] {1000, 1500, 2500}, ""), () -> v.digest());
+    v.restore();
+    due(listed(v, new int[] {1000, 1500, 2500}, ""), () -> v.digest());
   }
 }
